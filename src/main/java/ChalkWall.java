@@ -1538,19 +1538,25 @@ public final class ChalkWall {
 
         void search(Port where, int which) {
             port = where;
-            bids = which;
+            bids = 0;
             most = NONE;
-            int letters = 0;
-            for (int bid = 0; bid < where.bids; bid++) {
-                letters += hasBit(which, bid) ? where.letters[bid] : 0;
-            }
+            int widest = 0;
             for (int row = 0; row < where.rows; row++) {
                 room[row] = where.wide[row];
+                widest = Math.max(widest, room[row]);
+            }
+            int letters = 0;
+            for (int bid = 0; bid < where.bids; bid++) {
+                // A BID that no ROW can take would only make the hope for more letters too great.
+                if (hasBit(which, bid) && where.letters[bid] <= widest) {
+                    bids |= 1 << bid;
+                    letters += where.letters[bid];
+                }
             }
             place(0, 0, letters);
         }
 
-        /** Places the BIDS from one on; left is what these and the letters of all behind them are. */
+        /** Places the BIDS from one on, which have left letters together, behind letters placed. */
         private void place(int bid, int letters, int left) {
             if (port == null || letters + Math.min(left, roomLeft()) <= most) {
                 return;

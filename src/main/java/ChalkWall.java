@@ -1472,11 +1472,12 @@ public final class ChalkWall {
         }
 
         boolean takeBackWork(Wall wall) {
-            if (works == 0) {
+            Wall before = works > 0 ? ahead[works - 1] : null;
+            if (before == null) {
                 return false;
             }
             works--;
-            wall.become(ahead[works]);
+            wall.become(before);
             return true;
         }
 
@@ -1484,18 +1485,19 @@ public final class ChalkWall {
             if (images == MOST_IMAGES) {
                 return false;
             }
-            kept[images] = new Image(copied(wall), works);
-            copyWorks(ahead, kept[images].ahead, works);
+            Image image = new Image(copied(wall), works);
+            copyWorks(ahead, image.ahead, works);
+            kept[images] = image;
             images++;
             return true;
         }
 
         boolean takeImage(Wall wall) {
-            if (images == 0) {
+            Image image = images > 0 ? kept[images - 1] : null;
+            if (image == null) {
                 return false;
             }
             images--;
-            Image image = kept[images];
             wall.become(image.wall);
             works = image.works;
             copyWorks(image.ahead, ahead, works);

@@ -136,6 +136,12 @@ public final class TextsTest {
         portFault("Row 1;", 1, 0);
         portFault("rows 1;", 1, 0);
         portFault("ro 1;", 1, 0);
+        portFault("rowz1;", 1, 0);
+        portFault("rowa1;", 1, 0);
+        portFault("row`1;", 1, 3);
+        portFault("row{1;", 1, 3);
+        portFault("row /1;", 1, 4);
+        portFault("row :1;", 1, 4);
         portFault("r", 1, 0);
         portFault("write 0 0 0;", 1, 0);
         portFault("row", 1, 3);
@@ -359,6 +365,7 @@ public final class TextsTest {
 
     private static void workBegins() {
         check.due("5: no time", 0, nights("again 0 [night;];"));
+        check.due("5: as many steps as a text can have", 25, nights(Check.times("night;", 25)));
         check.due("5: thirty times", 30, nights("again 30 [night;];"));
         check.due("5: two hundred begun, with the agains", 192, nights("again 30[again 30[night;];];"));
         check.due("5: 1 and 30 times 3", 60, nights("again 30[again 2[night;];];"));

@@ -1051,37 +1051,26 @@ public final class ChalkWall {
         }
 
         int linesOn(int row) {
-            return linesAhead(lines, row);
-        }
-
-        private int linesAhead(int line, int row) {
-            int ahead = 0;
-            for (int other = 0; other < line; other++) {
-                if (lineRow[other] == row) {
-                    ahead++;
-                }
-            }
-            return ahead;
+            return timesIn(lineRow, lines, row);
         }
 
         int linesOfBid(int bid) {
-            int many = 0;
-            for (int line = 0; line < lines; line++) {
-                if (lineBid[line] == bid) {
-                    many++;
-                }
-            }
-            return many;
+            return timesIn(lineBid, lines, bid);
         }
 
         int linesBy(int writer) {
-            int many = 0;
-            for (int line = 0; line < lines; line++) {
-                if (lineWriter[line] == writer) {
-                    many++;
+            return timesIn(lineWriter, lines, writer);
+        }
+
+        /** How often a number stands among the first ones of a row of numbers. */
+        private static int timesIn(int[] numbers, int first, int wanted) {
+            int times = 0;
+            for (int i = 0; i < first && i < numbers.length; i++) {
+                if (numbers[i] == wanted) {
+                    times++;
                 }
             }
-            return many;
+            return times;
         }
 
         int actsOn(int row) {
@@ -1125,7 +1114,7 @@ public final class ChalkWall {
         void describe(Port port, int line, int[] given) {
             given[0] = lineRow[line];
             given[1] = port.letters[lineBid[line]];
-            given[2] = linesAhead(line, lineRow[line]);
+            given[2] = timesIn(lineRow, line, lineRow[line]);
             given[3] = lineWriter[line];
             given[4] = lineAct[line];
             given[5] = day;

@@ -669,29 +669,31 @@ public final class ChalkWall {
         }
 
         boolean hasMore() {
-            return isFine() && next() < end;
+            return faultKind == 0 && next() < end;
         }
 
         boolean comesNumber() {
-            return hasMore() && isDigit(bytes[at]);
+            return faultKind == 0 && next() < end && isDigit(bytes[at]);
         }
 
         boolean takesSign(char sign) {
-            if (!hasMore() || bytes[at] != sign) {
-                return false;
+            boolean comes = faultKind == 0 && next() < end && bytes[at] == sign;
+            if (comes) {
+                at++;
             }
-            at++;
-            return true;
+            return comes;
         }
 
         void needSign(char sign) {
-            if (!takesSign(sign)) {
+            if (faultKind == 0 && next() < end && bytes[at] == sign) {
+                at++;
+            } else {
                 wrong(CANT_STAND, at);
             }
         }
 
         boolean takesWord(String word) {
-            if (!hasMore()) {
+            if (faultKind != 0 || next() >= end) {
                 return false;
             }
             int stop = at;
@@ -1214,21 +1216,13 @@ public final class ChalkWall {
                 readSum(text, open + 1);
                 text.needSign(')');
             } else {
-                readPair(text, open + 1);
+                text.needSign('[');
+                readSum(text, open + 1);
+                text.needSign(',');
+                readSum(text, open + 1);
+                text.needSign(']');
                 put(least ? LEAST : MOST);
             }
-        }
-
-        private void readPair(Tape text, int open) {
-            text.needSign('[');
-            if (text.isFine()) {
-                readSum(text, open);
-            }
-            text.needSign(',');
-            if (text.isFine()) {
-                readSum(text, open);
-            }
-            text.needSign(']');
         }
 
         private static int givenWord(Tape text) {
@@ -1374,23 +1368,19 @@ public final class ChalkWall {
             int step = from;
             while (step < to && begun < MOST_BEGUN) {
                 begun++;
-                if (kind[step] != AGAIN) {
-                    doStep(wall, port, step);
-                    step++;
-                } else {
+                if (kind[step] == AGAIN) {
                     for (int i = 0; i < first[step] && open < MOST_OPEN; i++) {
                         doSteps(wall, port, step + 1, second[step], open + 1);
                     }
                     step = second[step];
+                    continue;
                 }
-            }
-        }
-
-        private void doStep(Wall wall, Port port, int step) {
-            if (attempt(wall, port, step)) {
-                done++;
-            } else {
-                refused++;
+                if (attempt(wall, port, step)) {
+                    done++;
+                } else {
+                    refused++;
+                }
+                step++;
             }
         }
 

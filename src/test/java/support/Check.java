@@ -2,7 +2,7 @@ import java.nio.charset.StandardCharsets;
 import java.util.NoSuchElementException;
 
 /** Counts and prints the calls whose answers are not as due; one object a test program. */
-final class Check {
+class Check {
     interface Call {
         long answer();
     }

@@ -4,7 +4,8 @@ import java.util.Random;
 /** Asks ChalkWall and the plain Model the same, by chance, and wants the same answers. */
 public final class ModelTest {
     private static final int RUNS = 400;
-    private static final int CALLS = 500;
+    // A text may need 30 feeds and some calls more, and an object has 512 calls.
+    private static final int CALLS = 470;
 
     private final Check check;
     private final Random random;

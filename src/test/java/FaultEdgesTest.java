@@ -12,6 +12,9 @@ public final class FaultEdgesTest {
         edges.edge(7, "1 what can't stand there", FaultEdgesTest::whatCantStand);
         edges.edge(7, "WORDS: small letters, as many as stand there", FaultEdgesTest::otherWords);
         edges.edge(7, "(at the length, if the text ends too early)", FaultEdgesTest::endsTooEarly);
+        edges.edge(7, "The first n bytes of the TAPE", FaultEdgesTest::othersBehind);
+        edges.edge(7, "(empty then)", FaultEdgesTest::earlierText);
+        edges.edge(7, "A PORT is a text of up to 600 bytes", FaultEdgesTest::fullTape);
         edges.edge(7, "2 a number that is none such (an A twice; B of kin as A)", FaultEdgesTest::numbers);
         edges.edge(7, "3 a CLAUSE, ROW, BID or WRITER (at its word)", FaultEdgesTest::tooManyClauses);
         edges.edge(7, "or a 7th of ( least most again that is open at one time", FaultEdgesTest::seventhOpen);
@@ -119,6 +122,15 @@ public final class FaultEdgesTest {
         word("work", "", "again", " 1[];");
     }
 
+    private static int readFirst(ChalkWall x, String kind, int n) {
+        switch (kind) {
+            case "port": return x.port(n);
+            case "law": return x.law(n);
+            case "work": return x.work(n);
+            default: return x.deeds(n);
+        }
+    }
+
     /** A text, cut behind each of its bytes: where its FAULT is then, NONE where it can end. */
     private static void cut(String kind, String text, int[] places) {
         edges.due("a place for each cut of '" + text + "'", text.length() + 1, places.length);
@@ -128,7 +140,73 @@ public final class FaultEdgesTest {
             } else {
                 fault(kind, text.substring(0, n), 1, places[n]);
             }
+            first(kind, text, n, places[n]);
         }
+    }
+
+    /** The first n bytes of a text, with the others behind them on the TAPE. */
+    private static void first(String kind, String text, int n, int place) {
+        ChalkWall x = Check.withPort(PORT);
+        Check.feed(x, text);
+        edges.due(n + " bytes of " + kind + " '" + text + "'", place == -1, readFirst(x, kind, n) >= 0);
+        edges.due("place in " + n + " bytes of " + kind + " '" + text + "'", place, x.fault());
+    }
+
+    private static void othersBehind() {
+        first("law", "row+1", 3, -1);
+        first("law", "row-1", 3, -1);
+        first("law", "row*1", 3, -1);
+        first("law", "row/1", 3, -1);
+        first("law", "row%1", 3, -1);
+        first("law", "rows", 3, -1);
+        first("law", "olda", 3, -1);
+        first("law", "oldz", 3, -1);
+        first("law", "9999", 3, -1);
+        first("law", "999]", 3, -1);
+        first("law", "1  1", 3, -1);
+        first("law", "((1))", 4, 4);
+        first("law", "1+1", 2, 2);
+        first("law", "most[", 4, 4);
+        first("port", "row 1;;", 6, -1);
+        first("port", "row 1;row", 6, -1);
+        first("port", "row 1;", 5, 5);
+        first("port", "rows", 3, 3);
+        first("port", "row 111;", 5, 5);
+        first("work", "again 1[night;];", 14, 14);
+        first("work", "again 1[];", 8, 8);
+        first("work", "again 1[];", 9, 9);
+        first("work", "night;;", 6, -1);
+        first("work", "nights", 5, 5);
+        first("work", "slip 00;", 6, 6);
+        first("deeds", "1 1;1 1;", 4, -1);
+        first("deeds", "1 11;", 3, 3);
+        first("deeds", "1 1;;", 4, -1);
+    }
+
+    /** Bytes of an earlier, longer text are not behind a later one. */
+    private static void earlierText() {
+        for (String sign : new String[] {"+", "*", "s", "7", ")", ";", "]"}) {
+            ChalkWall x = Check.withPort(PORT);
+            edges.due("an earlier text", -9, Check.law(x, Check.times(")", 20) + sign + "1"));
+            edges.due("a text of 20 bytes ahead of " + sign, 1, Check.law(x, Check.times(" ", 17) + "row"));
+            edges.due("an earlier text", -9, Check.law(x, Check.times(")", 20) + sign + "1"));
+            edges.due("a number of 20 bytes ahead of " + sign, 1, Check.law(x, Check.times("0", 17) + "999"));
+            edges.due("its value", 999, x.would(0, 1, 0, 0, 0, 0, 0, 0));
+        }
+        ChalkWall y = Check.withPort(PORT);
+        edges.due("an earlier text", -9, Check.work(y, Check.times(")", 20) + "];"));
+        edges.due("an again of 20 bytes", -9, Check.work(y, Check.times(" ", 12) + "again 1["));
+        edges.due("ends too early", 20, y.fault());
+    }
+
+    /** A full TAPE, whose last byte ends what is read. */
+    private static void fullTape() {
+        String[] ends = {"row", "row 1", "row ", "bid 1 1", "writer 1 1", "knows"};
+        for (String end : ends) {
+            fault("port", Check.times(" ", 600 - end.length()) + end, 1, 600);
+        }
+        fine("port", Check.times(" ", 594) + "row 1;");
+        fault("port", Check.times(" ", 597) + "xxx", 1, 597);
     }
 
     private static void endsTooEarly() {

@@ -25,6 +25,7 @@ public final class PortEdgesTest {
     private static void port() {
         edges.edge(3, "The first n bytes of the TAPE (empty then) are the PORT", PortEdgesTest::firstBytesAlone);
         edges.edge(3, "(DAY 0; no LAW, DEEDS, IMAGES, nothing to undo)", PortEdgesTest::allIsNew);
+        edges.edge(3, "(empty then) are the PORT", PortEdgesTest::nothingOfLargerOnes);
         edges.edge(3, "how many BIDS", PortEdgesTest::fromNoBidToEight);
         edges.edge(3, "or the FAULT less 10 (all stays)", PortEdgesTest::allStaysBehindFault);
         edges.edge(3, "IllegalArgumentException: n is not 0 to the TAPE's bytes (it stays).",
@@ -159,6 +160,59 @@ public final class PortEdgesTest {
         edges.due("nothing to undo", 0, x.count(2));
         edges.due("nothing to undo", -1, x.undo());
         edges.stays("as a new one's", Seen.all(Check.withPort(SMALL)), x);
+    }
+
+    /** Answers to what goes over all ROWS, BIDS and WRITERS. */
+    private static String overAll(ChalkWall x) {
+        StringBuilder seen = new StringBuilder(Seen.all(x));
+        int bids = (1 << x.told(1)) - 1;
+        int writers = (1 << x.told(2)) - 1;
+        for (int what = 0; what <= 2; what++) {
+            seen.append(' ').append(x.crews(1, 1, what)).append(' ').append(x.stood(what));
+        }
+        for (int what = 0; what <= 3; what++) {
+            seen.append(' ').append(x.years(77, 12, 9, 9, what)).append(' ').append(x.above(what));
+        }
+        for (int writer = 0; writer < x.told(2); writer++) {
+            seen.append(' ').append(x.share(writer, writers, 13)).append(' ').append(x.loud(writer));
+        }
+        for (int bid = 0; bid < x.told(1); bid++) {
+            seen.append(' ').append(x.fitted(bids, bid)).append(' ').append(x.still(bid, 3, 3, 1, 0));
+        }
+        seen.append(' ').append(x.send(bids)).append(' ').append(x.lost(bids)).append(' ').append(x.fits(bids));
+        seen.append(' ').append(x.idle()).append(' ').append(x.missing()).append(' ').append(x.torn());
+        return seen.toString();
+    }
+
+    /** As many ROWS, BIDS and WRITERS as can be; each WRITER remembers six BIDS. */
+    private static String large() {
+        StringBuilder text = new StringBuilder(Check.times("row 30;", 4) + Check.times("bid 9 15;", 8)
+                + "kin 9 1;kin 1 9;" + Check.times("writer 3 60;", 6));
+        for (int i = 0; i < 36; i++) {
+            text.append("knows ").append(i / 6).append(' ').append(i % 6).append(';');
+        }
+        return text.toString();
+    }
+
+    private static void nothingOfLargerOnes() {
+        String[] small = {"", "row 1;", "bid 0 2;", "writer 3 9;", "row 1;bid 0 2;writer 3 9;knows 0 0;",
+            "row 9;row 1;bid 0 2;writer 3 9;", "row 1;bid 0 2;bid 1 3;writer 3 9;writer 0 60;knows 0 0;knows 1 1;", SMALL};
+        for (String text : small) {
+            ChalkWall x = new ChalkWall();
+            // Two of them, since an object may keep one port while it reads the next one.
+            for (int i = 0; i < 2; i++) {
+                edges.due("a large one", 8, Check.port(x, large()));
+                Check.law(x, "old*7+9");
+                Check.deeds(x, "9 1;1 0;");
+                edges.due("its work", 20, Check.work(x, "again 8[write 5 5 3;write 0 0 0;slip 7;slip 0;];"));
+            }
+            Check.port(x, text);
+            edges.same("behind larger ones: " + text, overAll(Check.withPort(text)), overAll(x));
+        }
+        ChalkWall y = Check.withPort(FULL);
+        edges.due("all writers but one are idle", 31, y.idle());
+        ChalkWall z = Check.withPort(FULL.replace("knows 5 7;", ""));
+        edges.due("all writers are idle", 63, z.idle());
     }
 
     private static void fromNoBidToEight() {
